@@ -43,8 +43,8 @@ public final class AnyNail {
     private int ran;
     /** Rows to work in: made once, as a call makes none. */
     private final Row left = new Row();
-    private final Row one = new Row();
-    private final Row two = new Row();
+    private final Row rowA = new Row();
+    private final Row rowB = new Row();
 
     public AnyNail() {
     }
@@ -233,9 +233,9 @@ public final class AnyNail {
             return NOTHING;
         }
         if (k == -1) {
-            return one.size;
+            return rowA.size;
         }
-        return k < one.size ? one.turnAt(k) : NOTHING;
+        return k < rowA.size ? rowA.turnAt(k) : NOTHING;
     }
 
     public int mend(int cord, int law) {
@@ -484,13 +484,13 @@ public final class AnyNail {
 
     // ---- the shortest winding
 
-    /** Puts into row one the shortest row by which a plain cord falls just by these sets. */
+    /** Puts into row A the shortest row by which a plain cord falls just by these sets. */
     private boolean windShortest(int sets, int m) {
         if (!isOfSomeRow(sets)) {
             return false;
         }
         for (int size = 0; size <= m; size++) {
-            one.clear();
+            rowA.clear();
             if (windOn(sets, size)) {
                 return true;
             }
@@ -510,7 +510,7 @@ public final class AnyNail {
         return hasBit(sets, board.allNails());
     }
 
-    /** Whether row one can be wound on by just so many turns; if so, the first way it can, is in it. */
+    /** Whether row A can be wound on by just so many turns; if so, the first way it can, is in it. */
     private boolean windOn(int sets, int more) {
         if (!canComeTo(sets, more)) {
             return false;
@@ -520,14 +520,14 @@ public final class AnyNail {
         }
         for (int turn = 0; turn < 2 * board.nailCount; turn++) {
             // A turn that undoes the last one leaves a row that was looked at when it was shorter.
-            if (one.size > 0 && one.turnAt(one.size - 1) == (turn ^ 1)) {
+            if (rowA.size > 0 && rowA.turnAt(rowA.size - 1) == (turn ^ 1)) {
                 continue;
             }
-            one.add(turn);
+            rowA.add(turn);
             if (windOn(sets, more - 1)) {
                 return true;
             }
-            one.dropLast();
+            rowA.dropLast();
         }
         return false;
     }
@@ -535,7 +535,7 @@ public final class AnyNail {
     /** What is left by a set gets less by one turn at most with each turn that comes. */
     private boolean canComeTo(int sets, int more) {
         for (int set = 0; set < board.setCount(); set++) {
-            left.takeLeft(one, set);
+            left.takeLeft(rowA, set);
             if (hasBit(sets, set) ? left.size > more : more <= 0 && left.size == 0) {
                 return false;
             }
@@ -547,8 +547,8 @@ public final class AnyNail {
 
     private int mendByTaking(Cord c, int want) {
         for (int place = 0; place < c.row.size; place++) {
-            one.copyWithout(c.row, place);
-            if (fallsJustBy(c, one, want)) {
+            rowA.copyWithout(c.row, place);
+            if (fallsJustBy(c, rowA, want)) {
                 return place;
             }
         }
@@ -558,8 +558,8 @@ public final class AnyNail {
     private int mendByPutting(Cord c, int want) {
         for (int place = 0; place <= c.row.size; place++) {
             for (int turn = 0; turn < 2 * board.nailCount; turn++) {
-                one.copyWith(c.row, place, turn);
-                if (fallsJustBy(c, one, want)) {
+                rowA.copyWith(c.row, place, turn);
+                if (fallsJustBy(c, rowA, want)) {
                     return 1000 + 10 * place + turn;
                 }
             }
@@ -570,17 +570,17 @@ public final class AnyNail {
     // ---- alike
 
     private boolean areAlike(Row first, Row second, int what) {
-        one.takeLeft(first, 0);
-        two.takeLeft(second, 0);
+        rowA.takeLeft(first, 0);
+        rowB.takeLeft(second, 0);
         if (what == 1) {
-            one.closeUp();
-            two.closeUp();
-            return one.isRolled(two);
+            rowA.closeUp();
+            rowB.closeUp();
+            return rowA.isRolled(rowB);
         }
         if (what == 2) {
-            one.turnBack();
+            rowA.turnBack();
         }
-        return one.isSameFrom(two, 0);
+        return rowA.isSameFrom(rowB, 0);
     }
 
     // ---- the game
@@ -696,7 +696,7 @@ public final class AnyNail {
         ran++;
     }
 
-    /** Runs the body of an act that stands in the kind, or else in the next one above that has one. */
+    /** Runs the body of an act that stands in the kind, or else in the next one above that has rowA. */
     private int runBody(Cord c, int kind, int act, int x, int depth) {
         if (depth > DEPTH_MOST) {
             return 0;

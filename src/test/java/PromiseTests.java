@@ -530,6 +530,9 @@ public final class PromiseTests {
         mended(CORD, "bac", "a=1&c=1", 100);
         mended(CORD, "ab", "n=3", 1004);
         mended(CORD, "abAB", "n=3", NOTHING);
+        mended(CORD, "bAa", "a=1|b=1", 1023);
+        mended(CORD, "bBbAa", "a=1|b=1", 1043);
+        mended(CORD, "acA", "a=1|c=1", 1005);
         mended(ROUGH, "ab", "n<0", NOTHING);
         AnyNail x = new AnyNail();
         x.cord(TOLD, 0);
