@@ -696,7 +696,7 @@ public final class AnyNail {
         ran++;
     }
 
-    /** Runs the body of an act that stands in the kind, or else in the next one above that has rowA. */
+    /** Runs the body of an act that stands in the kind, or else in the next one above that has one. */
     private int runBody(Cord c, int kind, int act, int x, int depth) {
         if (depth > DEPTH_MOST) {
             return 0;
