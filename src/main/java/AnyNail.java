@@ -88,15 +88,19 @@ public final class AnyNail {
 
     public int turn(int cord, int nail, int way) {
         Cord c = board.cordAt(cord);
-        if (c == null || (nail != -1 && !board.hasNail(nail))) {
+        if (c == null) {
+            return NONE;
+        }
+        // No turn comes then, so the way is not asked for.
+        if (nail == -1) {
+            c.row.clear();
+            return 0;
+        }
+        if (!board.hasNail(nail)) {
             return NONE;
         }
         if (way < 0 || way > 1) {
             return BAD;
-        }
-        if (nail == -1) {
-            c.row.clear();
-            return 0;
         }
         if (c.row.size >= TURNS_MOST) {
             return FULL;

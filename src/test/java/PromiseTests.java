@@ -206,10 +206,18 @@ public final class PromiseTests {
         due("way 2", BAD, x.turn(0, 0, 2));
         due("way -1", BAD, x.turn(0, 0, -1));
         due("NONE first", NONE, x.turn(0, 3, 2));
-        due("a way that is none, nail -1", BAD, x.turn(0, -1, 2));
         due("unchanged", 2, x.of(0, 2));
+        due("nail -1 of no cord", NONE, x.turn(1, -1, 0));
+        due("nail -1 of no cord, no way", NONE, x.turn(-1, -1, 2));
+        due("still unchanged", 2, x.of(0, 2));
         due("none then", 0, x.turn(0, -1, 1));
         due("none", 0, x.of(0, 2));
+        for (int way : new int[] {2, -1, Integer.MIN_VALUE, Integer.MAX_VALUE}) {
+            due("a turn again", 1, x.turn(0, 1, 0));
+            due("none then, way " + way, 0, x.turn(0, -1, way));
+            due("none, way " + way, 0, x.of(0, 2));
+            due("none of none, way " + way, 0, x.turn(0, -1, way));
+        }
         for (int i = 1; i <= 48; i++) {
             due("turn " + i, i, x.turn(0, 0, 0));
         }
@@ -217,7 +225,8 @@ public final class PromiseTests {
         due("NONE before FULL", NONE, x.turn(0, 3, 0));
         due("BAD before FULL", BAD, x.turn(0, 0, 5));
         due("48 stay", 48, x.of(0, 2));
-        due("out of a full one", 0, x.turn(0, -1, 0));
+        due("out of a full one", 0, x.turn(0, -1, 7));
+        due("one again", 1, x.turn(0, 0, 0));
     }
 
     private static void weave() {

@@ -504,16 +504,17 @@ public final class RandomRuns {
             if (c == null || nail < -1 || nail >= n) {
                 return -1;
             }
+            if (nail == -1) {
+                c.row = "";
+                return 0;
+            }
             if (way != 0 && way != 1) {
                 return -2;
             }
-            if (nail == -1) {
-                c.row = "";
-            } else if (c.row.length() == 48) {
+            if (c.row.length() == 48) {
                 return -4;
-            } else {
-                c.row += letter(2 * nail + way);
             }
+            c.row += letter(2 * nail + way);
             return c.row.length();
         }
 
