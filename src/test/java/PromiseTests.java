@@ -1,20 +1,5 @@
 /** For each promise of the document: ordinary inputs, the edges that it names, and wrong inputs. */
-public final class PromiseTests {
-    private static final int NONE = -1, BAD = -2, STATE = -3, FULL = -4, NOTHING = -5;
-    private static final int CORD = 0, ROUND = 1, ROUGH = 2, HEAVY = 3, TIED = 4, SLIPPING = 5, TOLD = 6;
-    private static final int LEAST_INT = Integer.MIN_VALUE, MOST_INT = Integer.MAX_VALUE;
-
-    private static int wrong;
-    private static int checked;
-
-    private static void due(String call, long want, long got) {
-        checked++;
-        if (got != want) {
-            wrong++;
-            System.out.println(call + " answered " + got + ", due is " + want);
-        }
-    }
-
+public final class PromiseTests extends Due {
     public static void main(String[] args) {
         newObject();
         nails();
@@ -48,56 +33,7 @@ public final class PromiseTests {
         undo();
         count();
         refusedCallsChangeNothing();
-        System.out.println("PromiseTests: " + checked + " answers, " + wrong + " not as due");
-        if (wrong != 0) {
-            System.exit(1);
-        }
-    }
-
-    // ---- helpers
-
-    /** Turns as letters: a is nail 0 this way, A nail 0 that way, and so on. */
-    private static void wind(AnyNail x, int cord, String row) {
-        x.turn(cord, -1, 0);
-        for (char c : row.toCharArray()) {
-            boolean that = Character.isUpperCase(c);
-            int nail = Character.toLowerCase(c) - 'a';
-            if (x.turn(cord, nail, that ? 1 : 0) < 0) {
-                due("winding " + row, 0, -1);
-            }
-        }
-    }
-
-    private static AnyNail with(int nails, int kind, int v, String row) {
-        AnyNail x = new AnyNail();
-        x.nails(nails);
-        x.cord(kind, v);
-        wind(x, 0, row);
-        return x;
-    }
-
-    private static int feedLaw(AnyNail x, String text) {
-        for (char c : text.toCharArray()) {
-            x.feed(c);
-        }
-        return x.law();
-    }
-
-    private static String rowOf(AnyNail x, int cord, int from) {
-        StringBuilder row = new StringBuilder();
-        for (int k = 0; x.of(cord, from + k) >= 0; k++) {
-            int turn = x.of(cord, from + k);
-            row.append((char) ((turn % 2 == 0 ? 'a' : 'A') + turn / 2));
-        }
-        return row.toString();
-    }
-
-    private static void dueRow(String call, String want, String got) {
-        checked++;
-        if (!want.equals(got)) {
-            wrong++;
-            System.out.println(call + " answered " + got + ", due is " + want);
-        }
+        end(PromiseTests.class, "");
     }
 
     // ---- promises
@@ -234,18 +170,18 @@ public final class PromiseTests {
         due("no cord", NONE, x.weave(0, 0));
         x.cord(CORD, 0);
         due("one", 1, x.weave(0, 4));
-        dueRow("one", "c", rowOf(x, 0, 100));
+        dueText("one", "c", rowOf(x, 0, 100));
         due("two", 4, x.weave(0, 5));
-        dueRow("two", "acAC", rowOf(x, 0, 100));
+        dueText("two", "acAC", rowOf(x, 0, 100));
         due("three", 10, x.weave(0, 7));
-        dueRow("three", "abABcbaBAC", rowOf(x, 0, 100));
+        dueText("three", "abABcbaBAC", rowOf(x, 0, 100));
         due("set 8 of three nails", BAD, x.weave(0, 8));
         due("set 0", BAD, x.weave(0, 0));
         due("set -1", BAD, x.weave(0, -1));
         due("unchanged", 10, x.of(0, 2));
         x.nails(4);
         due("four", 22, x.weave(0, 15));
-        dueRow("four", "abABcbaBACdcabABCbaBAD", rowOf(x, 0, 100));
+        dueText("four", "abABcbaBACdcabABCbaBAD", rowOf(x, 0, 100));
         due("set 16", BAD, x.weave(0, 16));
         due("by any one", 0xFFFE, x.of(0, 4));
         due("least", 0x0116, x.of(0, 5));
@@ -257,8 +193,8 @@ public final class PromiseTests {
         due("v", 7, x.of(0, 1));
         due("turns", 7, x.of(0, 2));
         due("left", 3, x.of(0, 3));
-        dueRow("left", "abc", rowOf(x, 0, 200));
-        dueRow("turns", "abBbAac", rowOf(x, 0, 100));
+        dueText("left", "abc", rowOf(x, 0, 200));
+        dueText("turns", "abBbAac", rowOf(x, 0, 100));
         due("past the turns", NONE, x.of(0, 107));
         due("past the left", NONE, x.of(0, 203));
         due("sets", 1 << 7, x.of(0, 4));
@@ -561,7 +497,7 @@ public final class PromiseTests {
         AnyNail x = with(3, kind, 0, row);
         feedLaw(x, text);
         due("MEND of " + row + " for " + text, want, x.mend(0, 0));
-        dueRow("as it was", row, rowOf(x, 0, 100));
+        dueText("as it was", row, rowOf(x, 0, 100));
     }
 
     private static void alike() {
@@ -889,7 +825,7 @@ public final class PromiseTests {
             due("the trace stays", 5, x.count(4));
             due("its bodies stay", 31, x.trace(0));
             due("told sets", 1 << 5, x.of(0, 4));
-            dueRow("turns", "abd", rowOf(x, 0, 100));
+            dueText("turns", "abd", rowOf(x, 0, 100));
             due("turns of 1", 0, x.of(1, 2));
             due("what was seen", 0, x.fits() & 1);
             x.feed('2');
@@ -953,7 +889,7 @@ public final class PromiseTests {
         due("seen", 1, x.count(2));
         due("tape", 1, x.count(3));
         due("bodies", 2, x.count(4));
-        dueRow("turns", "abAB", rowOf(x, 0, 100));
+        dueText("turns", "abAB", rowOf(x, 0, 100));
         due("told sets", 4, x.of(1, 4));
     }
 }
