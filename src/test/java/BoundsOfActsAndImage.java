@@ -203,6 +203,23 @@ public final class BoundsOfActsAndImage extends Due {
 
     // ---- promise 27: image
 
+    static void imageLeavesTheTrace() {
+        sentence(27, "THE TRACE: the numbers of the bodies that ran in the latest act(), as they began;");
+        AnyNail x = with(3, ROUND, 1, "");
+        x.act(0, 1, 1);
+        x.image();
+        due("bodies", 3, x.count(4));
+        due("the first", 2, x.trace(0));
+        due("the last", 1, x.trace(2));
+        x.cord(CORD, 1);
+        x.weave(1, 3);
+        x.nails(4);
+        feedLaw(x, "a=1");
+        x.see(0, false);
+        due("bodies behind other calls", 3, x.count(4));
+        due("the first behind other calls", 2, x.trace(0));
+    }
+
     static void imageOfNoneToFive() {
         sentence(27, "THE IMAGE is taken: how many CORDS there are.");
         AnyNail x = new AnyNail();
@@ -293,6 +310,7 @@ public final class BoundsOfActsAndImage extends Due {
         x.law();
         feedLaw(x, "b=1");
         x.see(-1, false);
+        x.see(0, false);
         due("undone", 2, x.undo());
         due("NAILS", 4, x.told(0));
         due("PLACE", 99, x.told(10));
@@ -341,6 +359,22 @@ public final class BoundsOfActsAndImage extends Due {
         for (int what : farNumbers()) {
             due("what " + what, NONE, x.count(what));
         }
+    }
+
+    static void callsUpToThe512th() {
+        sentence(29, "An object is used for at most 512 calls after it has been made;");
+        AnyNail x = new AnyNail();
+        x.cord(TIED, 1);
+        for (int call = 2; call <= 509; call++) {
+            if (call % 2 == 0) {
+                due("call " + call, 0, x.turn(0, -1, 0));
+            } else {
+                due("call " + call, 10, x.weave(0, 7));
+            }
+        }
+        due("call 510", 6, x.act(0, 0, 2));
+        due("call 511", 2, x.count(4));
+        due("call 512", 10, x.of(0, 2));
     }
 
     static void countsFromNoneToFull() {

@@ -302,6 +302,16 @@ public final class BoundsOfLaws extends Due {
         }
     }
 
+    static void setsOfALawThatWasReadWithFewerNails() {
+        sentence(11, "those of NAILS that are there by which E holds");
+        AnyNail x = withLaw(1, "d=1|n=3");
+        due("SETS by one nail", 0, x.sets(0));
+        x.nails(4);
+        due("SETS by four nails", 0xFF80, x.sets(0));
+        x.nails(3);
+        due("SETS by three nails", 0x80, x.sets(0));
+    }
+
     static void testsOfNails() {
         sentence(11, "of a set of NAILS a 1, if NAIL 0 is in it, else 0, b of NAIL 1 and so on, n how many are in it.");
         setsOf(4, "a=1", 0xAAAA);

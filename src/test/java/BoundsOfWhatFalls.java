@@ -488,6 +488,11 @@ public final class BoundsOfWhatFalls extends Due {
         alike(2, "a", "a", 0);
         alike(2, "a", "", 0);
         alike(2, "abc", "CBA", 1);
+        alike(2, "A", "a", 1);
+        alike(2, "A", "A", 0);
+        alike(2, "ABc", "Cba", 1);
+        alike(2, "aBC", "cbA", 1);
+        alike(2, "ABC", "CBA", 0);
         alike(2, "abc", "cba", 0);
         alike(2, "abc", "ABC", 0);
         alike(2, "abc", "abc", 0);
