@@ -9,7 +9,9 @@ public final class BoundsOfActsAndImage extends Due {
     static void actOfNoCordOrAct() {
         sentence(24, "0, and no TRACE then: no such CORD, act.");
         AnyNail x = with(3, CORD, 0, "");
-        noAct(x, 1, 0);
+        for (int cord = 1; cord <= 6; cord++) {
+            noAct(x, cord, 0);
+        }
         noAct(x, -1, 0);
         noAct(x, 0, 3);
         noAct(x, 0, -1);
@@ -177,7 +179,9 @@ public final class BoundsOfActsAndImage extends Due {
         due("k 6", OTHER_KIND, x.as(0, 6));
         due("k 7", NONE, x.as(0, 7));
         due("k -1", NONE, x.as(0, -1));
-        due("cord 1", NONE, x.as(1, 0));
+        for (int cord = 1; cord <= 6; cord++) {
+            due("cord " + cord, NONE, x.as(cord, 0));
+        }
         due("cord -1", NONE, x.as(-1, 0));
         due("neither", NONE, x.as(1, 7));
         due("no cord, of another KIND", NONE, x.as(1, 6));
@@ -329,6 +333,36 @@ public final class BoundsOfActsAndImage extends Due {
         x.feed('1');
         due("THE TAPE goes on", 1, x.law());
         due("SETS of it", 0xFF00, x.sets(1));
+    }
+
+    static void undoOfWhatWasToldOfNailsThatHadGone() {
+        sentence(28, "All is as THE IMAGE: how many");
+        AnyNail x = new AnyNail();
+        x.nails(4);
+        for (int i = 0; i < 4; i++) {
+            x.nail(i, 0, 50 + i);
+            x.nail(i, 1, 5 + i);
+        }
+        x.cord(TOLD, 0);
+        x.set(0, 15, true);
+        x.see(15, true);
+        x.nails(1);
+        x.image();
+        x.nails(4);
+        for (int i = 0; i < 4; i++) {
+            x.nail(i, 0, 0);
+            x.nail(i, 1, 1);
+        }
+        x.set(0, 15, false);
+        x.see(0, true);
+        due("undone", 1, x.undo());
+        due("one nail", 1, x.nails(4));
+        for (int i = 0; i < 4; i++) {
+            due("PLACE of " + i, 50 + i, x.told(10 + i));
+            due("WEAK of " + i, 5 + i, x.told(20 + i));
+        }
+        due("by all four", 1, x.falls(0, 15));
+        due("SEEN", 1, x.fits());
     }
 
     static void undoLeavesTheTrace() {

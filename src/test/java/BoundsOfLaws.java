@@ -279,7 +279,9 @@ public final class BoundsOfLaws extends Due {
         feedLaw(x, "b=1");
         due("the first", 0xAA, x.sets(0));
         due("the last", 0xCC, x.sets(1));
-        due("behind the last", NONE, x.sets(2));
+        for (int law = 2; law <= 6; law++) {
+            due("law " + law, NONE, x.sets(law));
+        }
         due("law -1", NONE, x.sets(-1));
         for (int law : farNumbers()) {
             due("law " + law, NONE, x.sets(law));

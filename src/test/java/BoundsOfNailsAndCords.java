@@ -211,8 +211,10 @@ public final class BoundsOfNailsAndCords extends Due {
         for (int n = 1; n <= 4; n++) {
             x.nails(n);
             due("the last of " + n, 0, x.nail(n - 1, 0, 0));
-            due("one behind it", NONE, x.nail(n, 0, 0));
-            due("one behind it, WEAK", NONE, x.nail(n, 1, 0));
+            for (int nail = n; nail <= 6; nail++) {
+                due("nail " + nail + " of " + n, NONE, x.nail(nail, 0, 0));
+                due("nail " + nail + " of " + n + ", WEAK", NONE, x.nail(nail, 1, 0));
+            }
         }
         due("nail -1", NONE, x.nail(-1, 0, 0));
         due("nail -1, WEAK", NONE, x.nail(-1, 1, 0));
@@ -388,7 +390,9 @@ public final class BoundsOfNailsAndCords extends Due {
     static void turnOfNoCordOrNail() {
         sentence(5, "NONE: cord, nail;");
         AnyNail x = with(3, CORD, 0, "");
-        due("cord 1", NONE, x.turn(1, 0, 0));
+        for (int cord = 1; cord <= 6; cord++) {
+            due("cord " + cord, NONE, x.turn(cord, 0, 0));
+        }
         due("cord -1", NONE, x.turn(-1, 0, 0));
         due("cord 1, nail -1", NONE, x.turn(1, -1, 0));
         due("cord -1, nail -1", NONE, x.turn(-1, -1, 0));
@@ -399,7 +403,9 @@ public final class BoundsOfNailsAndCords extends Due {
         }
         for (int n = 1; n <= 4; n++) {
             x.nails(n);
-            due("a nail behind the last of " + n, NONE, x.turn(0, n, 0));
+            for (int nail = n; nail <= 6; nail++) {
+                due("nail " + nail + " of " + n, NONE, x.turn(0, nail, 0));
+            }
             due("the last of " + n, 1, x.turn(0, n - 1, 0));
             x.turn(0, -1, 0);
         }
@@ -464,8 +470,9 @@ public final class BoundsOfNailsAndCords extends Due {
         due("set -1", BAD, x.weave(0, -1));
         for (int n = 1; n <= 4; n++) {
             x.nails(n);
-            due("a set with a nail behind the last of " + n, BAD, x.weave(0, 1 << n));
-            due("that and all of " + n, BAD, x.weave(0, (1 << n + 1) - 1));
+            for (int set = 1 << n; set <= 33; set++) {
+                due("set " + set + " of " + n + " nails", BAD, x.weave(0, set));
+            }
             due("all of " + n, n == 1 ? 1 : n == 2 ? 4 : n == 3 ? 10 : 22, x.weave(0, (1 << n) - 1));
             x.turn(0, -1, 0);
         }
@@ -488,7 +495,9 @@ public final class BoundsOfNailsAndCords extends Due {
     static void weaveRefusalsInTheirOrder() {
         sentence(6, "How many there are. NONE; BAD: set.");
         AnyNail x = with(3, CORD, 0, "");
-        due("cord 1", NONE, x.weave(1, 1));
+        for (int cord = 1; cord <= 6; cord++) {
+            due("cord " + cord, NONE, x.weave(cord, 1));
+        }
         due("cord -1", NONE, x.weave(-1, 1));
         for (int cord : farNumbers()) {
             due("cord " + cord, NONE, x.weave(cord, 1));
@@ -504,7 +513,9 @@ public final class BoundsOfNailsAndCords extends Due {
         sentence(7, "200 and k of what is LEFT (2 times the NAIL and the way). NONE.");
         AnyNail x = with(3, CORD, 0, "a");
         for (int what : new int[] {0, 1, 2, 3, 4, 5, 6, 7, 100, 200}) {
-            due("of(1, " + what + ")", NONE, x.of(1, what));
+            for (int cord = 1; cord <= 6; cord++) {
+                due("of(" + cord + ", " + what + ")", NONE, x.of(cord, what));
+            }
             due("of(-1, " + what + ")", NONE, x.of(-1, what));
         }
         for (int cord : farNumbers()) {
@@ -530,13 +541,20 @@ public final class BoundsOfNailsAndCords extends Due {
         due("first", 6, x.of(0, 100));
         due("second", 1, x.of(0, 101));
         due("last, the 48th", 7, x.of(0, 147));
-        due("behind the 48th", NONE, x.of(0, 148));
-        due("behind all that there may be", NONE, x.of(0, 199));
+        noTurnFrom(x, 148);
         wind(x, 0, "dAb");
         due("last of three", 2, x.of(0, 102));
-        due("behind the third", NONE, x.of(0, 103));
+        noTurnFrom(x, 103);
         wind(x, 0, "");
-        due("of none", NONE, x.of(0, 100));
+        noTurnFrom(x, 100);
+    }
+
+    /** To where what is LEFT is told, or, from there on, a hundred places. */
+    private static void noTurnFrom(AnyNail x, int from) {
+        int turns = x.of(0, 2);
+        for (int what = from; what < (from < 200 ? 200 : 300); what++) {
+            due("of " + turns + " turns, what " + what, NONE, x.of(0, what));
+        }
     }
 
     static void ofKthOfWhatIsLeft() {
@@ -545,15 +563,17 @@ public final class BoundsOfNailsAndCords extends Due {
         due("first", 6, x.of(0, 200));
         due("second", 2, x.of(0, 201));
         due("last", 7, x.of(0, 202));
-        due("behind the last", NONE, x.of(0, 203));
+        noTurnFrom(x, 203);
         due("there is such a turn", 4, x.of(0, 104));
-        wind(x, 0, "aA");
-        due("nothing is LEFT", NONE, x.of(0, 200));
-        wind(x, 0, "");
-        due("of none", NONE, x.of(0, 200));
-        wind(x, 0, "Dc".repeat(24));
+        x = with(4, CORD, 0, "aA");
+        noTurnFrom(x, 200);
+        x = with(4, CORD, 0, "");
+        noTurnFrom(x, 200);
+        x = with(4, CORD, 0, "Dc".repeat(24));
         due("the 48th", 4, x.of(0, 247));
-        due("behind the 48th", NONE, x.of(0, 248));
+        noTurnFrom(x, 248);
+        wind(x, 0, "Dc");
+        noTurnFrom(x, 202);
     }
 
     static void leftIsTakenOutAsLongAsThereAreTwo() {
@@ -710,7 +730,9 @@ public final class BoundsOfNailsAndCords extends Due {
     static void setRefusalsInTheirOrder() {
         sentence(8, "whether it did. NONE; BAD; STATE: another KIND.");
         AnyNail x = with(3, CORD, 0, "");
-        due("cord 1", NONE, x.set(1, 0, true));
+        for (int cord = 1; cord <= 6; cord++) {
+            due("cord " + cord, NONE, x.set(cord, 0, true));
+        }
         due("cord -1", NONE, x.set(-1, 0, true));
         for (int cord : farNumbers()) {
             due("cord " + cord, NONE, x.set(cord, 0, true));

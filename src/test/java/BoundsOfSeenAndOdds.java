@@ -13,9 +13,8 @@ public final class BoundsOfSeenAndOdds extends Due {
             x.nails(n);
             due("none of " + n, 2 * n - 1, x.see(0, true));
             due("all of " + n, 2 * n, x.see((1 << n) - 1, false));
-            if (n < 4) {
-                due("a nail behind the last of " + n, BAD, x.see(1 << n, true));
-                due("that and all", BAD, x.see((1 << n + 1) - 1, true));
+            for (int set = 1 << n; set <= 33; set++) {
+                due("set " + set + " of " + n + " nails", BAD, x.see(set, set % 2 == 0));
             }
         }
         x.see(-1, true);
@@ -129,6 +128,17 @@ public final class BoundsOfSeenAndOdds extends Due {
         due("it is SEEN still", 1, x.count(2));
     }
 
+    static void fitsOfSlippingWithoutNailsThatAreNotThere() {
+        sentence(19, "NAIL (v modulo n) counts as pulled, too, if any other NAIL is");
+        AnyNail x = with(4, SLIPPING, 0, "a");
+        x.see(8, true);
+        due("of four, another one is pulled", 1, x.fits());
+        x.nails(3);
+        due("of three, none is", 0, x.fits());
+        x.nails(4);
+        due("of four again", 1, x.fits());
+    }
+
     // ---- promise 20: tries
 
     static void triesWithoutAny() {
@@ -191,7 +201,10 @@ public final class BoundsOfSeenAndOdds extends Due {
         odds(x, 19, 100);
         due("part 2", NO, x.odds(0, 2));
         due("part -1", NO, x.odds(0, -1));
-        due("cord 1", NO, x.odds(1, 0));
+        for (int cord = 1; cord <= 6; cord++) {
+            due("cord " + cord, NO, x.odds(cord, 0));
+            due("cord " + cord, NO, x.odds(cord, 1));
+        }
         due("cord -1", NO, x.odds(-1, 1));
         due("neither", NO, x.odds(1, 2));
         for (int far : farNumbers()) {
@@ -265,7 +278,10 @@ public final class BoundsOfSeenAndOdds extends Due {
         hangs(x, 1, 9, 10);
         due("part 2", NO, x.hangs(0, 1, 2));
         due("part -1", NO, x.hangs(0, 1, -1));
-        due("cord 1", NO, x.hangs(1, 1, 0));
+        for (int cord = 1; cord <= 6; cord++) {
+            due("cord " + cord, NO, x.hangs(cord, 1, 0));
+            due("cord " + cord, NO, x.hangs(cord, 1, 1));
+        }
         due("cord -1", NO, x.hangs(-1, 1, 1));
         due("none of them", NO, x.hangs(1, 4, 2));
         for (int far : farNumbers()) {
@@ -352,10 +368,12 @@ public final class BoundsOfSeenAndOdds extends Due {
             due("how many", n, x.told(0));
             due("PLACE of the first", 31, x.told(10));
             due("PLACE of the last", 30 + n, x.told(9 + n));
-            due("PLACE behind the last", NONE, x.told(10 + n));
+            for (int i = n; i < 10; i++) {
+                due("PLACE of " + i + " of " + n, NONE, x.told(10 + i));
+                due("WEAK of " + i + " of " + n, NONE, x.told(20 + i));
+            }
             due("WEAK of the first", 3, x.told(20));
             due("WEAK of the last", 2 + n, x.told(19 + n));
-            due("WEAK behind the last", NONE, x.told(20 + n));
         }
     }
 

@@ -14,7 +14,9 @@ public final class BoundsOfWhatFalls extends Due {
             int all = (1 << n) - 1;
             due("by none", 0, x.falls(0, 0));
             due("by all of " + n, 1, x.falls(0, all));
-            due("by a nail behind the last of " + n, BAD, x.falls(0, 1 << n));
+            for (int set = all + 1; set <= 33; set++) {
+                due("by " + set + " of " + n + " nails", BAD, x.falls(0, set));
+            }
             due("by -1", BAD, x.falls(0, -1));
         }
         for (int set : farNumbers()) {
@@ -25,7 +27,9 @@ public final class BoundsOfWhatFalls extends Due {
     static void fallsRefusalsInTheirOrder() {
         sentence(12, "REFUSALS, of several the first one told: NONE there is no such NAIL, CORD");
         AnyNail x = with(3, CORD, 0, "");
-        due("cord 1", NONE, x.falls(1, 0));
+        for (int cord = 1; cord <= 6; cord++) {
+            due("cord " + cord, NONE, x.falls(cord, 0));
+        }
         due("cord -1", NONE, x.falls(-1, 0));
         for (int cord : farNumbers()) {
             due("cord " + cord, NONE, x.falls(cord, 0));
@@ -55,6 +59,10 @@ public final class BoundsOfWhatFalls extends Due {
         dueBy(with(2, CORD, 9, "ab"), "1000");
         dueBy(with(2, CORD, 9, "abAB"), "1110");
         dueBy(with(3, CORD, 9, "bb"), "11001100");
+        for (int v = 0; v <= 9; v++) {
+            dueBy(with(1, CORD, v, "a"), "10");
+            dueBy(with(2, CORD, v, "ab"), "1000");
+        }
     }
 
     static void roundFallsAsTold() {
@@ -64,6 +72,19 @@ public final class BoundsOfWhatFalls extends Due {
         dueBy(with(2, ROUND, 2, "abA"), "1100");
         dueBy(with(2, ROUND, 2, "ab"), "1000");
         dueBy(with(2, ROUND, 2, "abAB"), "1110");
+        for (int v = 0; v <= 9; v++) {
+            dueBy(with(1, ROUND, v, "a"), "10");
+            dueBy(with(2, ROUND, v, "ab"), "1000");
+        }
+    }
+
+    static void tiedFallsIfNothingIsLeft() {
+        sentence(12, "ROUND: if nothing is LEFT; so TIED");
+        for (int v = 0; v <= 9; v++) {
+            dueBy(with(1, TIED, v, "a"), "10");
+            dueBy(with(2, TIED, v, "ab"), "1000");
+            dueBy(with(2, TIED, v, "abAB"), v % 2 == 0 ? "1010" : "1100");
+        }
     }
 
     static void tiedFallsByItsNailOnly() {
@@ -129,6 +150,8 @@ public final class BoundsOfWhatFalls extends Due {
         dueBy(with(2, HEAVY, 9, "ab"), "1010");
         dueBy(with(3, HEAVY, 9, "ab"), "11001100");
         dueBy(with(4, HEAVY, 7, "da"), "1010101010101010");
+        dueBy(with(2, HEAVY, 4, "abb"), "1100");
+        dueBy(with(3, HEAVY, 5, "abc"), "10001000");
         dueBy(with(3, HEAVY, 2, "abAB"), "11101110");
         dueBy(with(3, HEAVY, 0, "abAB"), "11111111");
     }
@@ -165,9 +188,11 @@ public final class BoundsOfWhatFalls extends Due {
         due("no law yet", NONE, x.keeps(0, 0));
         feedLaw(x, "a=1");
         due("kept", NOTHING, x.keeps(0, 0));
-        due("cord 1", NONE, x.keeps(1, 0));
+        for (int i = 1; i <= 6; i++) {
+            due("cord " + i, NONE, x.keeps(i, 0));
+            due("law " + i, NONE, x.keeps(0, i));
+        }
         due("cord -1", NONE, x.keeps(-1, 0));
-        due("law 1", NONE, x.keeps(0, 1));
         due("law -1", NONE, x.keeps(0, -1));
         due("neither", NONE, x.keeps(1, 1));
         for (int far : farNumbers()) {
@@ -189,6 +214,42 @@ public final class BoundsOfWhatFalls extends Due {
         keeps(4, "abcd", "n>9", 15);
         keeps(1, "a", "n>9", 1);
         keeps(1, "", "a=1", 0);
+        keeps(3, "", "a=1&b=1&c=0|n<1", 1);
+    }
+
+    static void keepsLooksAtAllSets() {
+        sentence(13, "the least set (as a number)");
+        AnyNail x = with(3, TOLD, 0, "");
+        feedLaw(x, "a=1");
+        x.set(0, 1, true);
+        x.set(0, 3, true);
+        x.set(0, 5, true);
+        due("LEAST of both is the same", 7, x.keeps(0, 0));
+        x.set(0, 7, true);
+        due("all of them", NOTHING, x.keeps(0, 0));
+        x.set(0, 3, false);
+        x.set(0, 4, true);
+        due("of {0, 1} and {2} the least as a number", 3, x.keeps(0, 0));
+        x.set(0, 3, true);
+        due("{2} alone", 4, x.keeps(0, 0));
+        x.set(0, 0, true);
+        due("none pulled", 0, x.keeps(0, 0));
+    }
+
+    static void keepsByTheKindOfTheCord() {
+        sentence(13, "is in the SETS of just one of the two");
+        String[] laws = {"n=2", "n=2", "n>0", "a=1", "n=2", "n>0", "n>9"};
+        for (int kind = 0; kind <= 6; kind++) {
+            AnyNail x = with(2, kind, 1, "ab");
+            feedLaw(x, laws[kind]);
+            due("KIND " + kind + " and " + laws[kind], NOTHING, x.keeps(0, 0));
+        }
+        AnyNail x = with(2, TIED, 1, "");
+        feedLaw(x, "b=1");
+        due("TIED", NOTHING, x.keeps(0, 0));
+        x = with(3, SLIPPING, 2, "c");
+        feedLaw(x, "n<9");
+        due("SLIPPING by two turns", NOTHING, x.keeps(0, 0));
     }
 
     static void keepsAnswersNone() {
@@ -220,7 +281,9 @@ public final class BoundsOfWhatFalls extends Due {
         AnyNail x = new AnyNail();
         due("no law yet", NONE, x.shortest(0, 5, -1));
         feedLaw(x, "a=1");
-        due("law 1", NONE, x.shortest(1, 5, -1));
+        for (int law = 1; law <= 6; law++) {
+            due("law " + law, NONE, x.shortest(law, 5, -1));
+        }
         due("law -1", NONE, x.shortest(-1, 5, -1));
         due("k -1", 1, x.shortest(0, 5, -1));
         due("k -2", NONE, x.shortest(0, 5, -2));
@@ -324,9 +387,11 @@ public final class BoundsOfWhatFalls extends Due {
         due("no law yet", NONE, x.mend(0, 0));
         feedLaw(x, "a=1");
         due("kept", 0, x.mend(0, 0));
-        due("cord 1", NONE, x.mend(1, 0));
+        for (int i = 1; i <= 6; i++) {
+            due("cord " + i, NONE, x.mend(i, 0));
+            due("law " + i, NONE, x.mend(0, i));
+        }
         due("cord -1", NONE, x.mend(-1, 0));
-        due("law 1", NONE, x.mend(0, 1));
         due("law -1", NONE, x.mend(0, -1));
         for (int far : farNumbers()) {
             due("cord " + far, NONE, x.mend(far, 0));
@@ -383,8 +448,39 @@ public final class BoundsOfWhatFalls extends Due {
         mend(3, ROUGH, 0, "ab", "n<0", NOTHING);
     }
 
+    static void mendByTheKindOfTheCord() {
+        sentence(15, "0, if it keeps it; else the first turn (from 0; 100 and its place) that, taken out, lets it keep");
+        mend(2, ROUND, 1, "abb", "a=1", NOTHING);
+        mend(2, ROUND, 1, "ab", "a=1", 101);
+        mend(2, ROUND, 1, "", "a=1", 1000);
+        mend(2, ROUGH, 1, "ab", "n>0", 0);
+        mend(2, ROUGH, 1, "abb", "a=1|b=1", 101);
+        mend(2, HEAVY, 1, "bb", "a=1", 1000);
+        mend(2, HEAVY, 1, "ab", "a=1", 0);
+        mend(2, HEAVY, 0, "ba", "n<9", 100);
+        mend(2, TIED, 1, "", "b=1", 0);
+        mend(2, TIED, 1, "", "n=2", 1000);
+        mend(2, TIED, 1, "a", "b=1", 100);
+        mend(2, TIED, 0, "a", "n<9", NOTHING);
+        mend(2, SLIPPING, 0, "ab", "b=1", 0);
+        mend(2, SLIPPING, 0, "", "b=1", 1002);
+        mend(2, SLIPPING, 0, "ba", "a=1", NOTHING);
+        mend(2, SLIPPING, 0, "ba", "n>0", 100);
+        mend(2, SLIPPING, 0, "", "n>0", 1000);
+        mend(2, SLIPPING, 1, "aab", "n<9", NOTHING);
+        mend(2, SLIPPING, 2, "aab", "n<9", 100);
+        AnyNail x = with(2, TOLD, 0, "");
+        x.set(0, 3, true);
+        feedLaw(x, "n=2");
+        due("TOLD", 0, x.mend(0, 0));
+    }
+
     static void mendOfToldOnes() {
         sentence(15, "(Of TOLD ones: -5, if they do not keep it.)");
+        mend(3, TOLD, 0, "", "a=1", NOTHING);
+        mend(3, TOLD, 0, "a", "a=1", NOTHING);
+        mend(3, TOLD, 0, "ab", "a=1", NOTHING);
+        mend(3, TOLD, 0, "ab", "n>9", 0);
         AnyNail x = with(3, TOLD, 0, "b");
         feedLaw(x, "a=1&b=1&c=1");
         due("it falls by none", NOTHING, x.mend(0, 0));
@@ -409,9 +505,11 @@ public final class BoundsOfWhatFalls extends Due {
         addCord(x, CORD, 0, "a");
         for (int what = 0; what <= 2; what++) {
             due("the last one", what == 2 ? 0 : 1, x.alike(0, 1, what));
-            due("one 2", NONE, x.alike(2, 0, what));
+            for (int cord = 2; cord <= 6; cord++) {
+                due("one " + cord, NONE, x.alike(cord, 0, what));
+                due("other " + cord, NONE, x.alike(0, cord, what));
+            }
             due("one -1", NONE, x.alike(-1, 0, what));
-            due("other 2", NONE, x.alike(0, 2, what));
             due("other -1", NONE, x.alike(0, -1, what));
         }
         due("what 3", NONE, x.alike(0, 1, 3));
@@ -532,7 +630,10 @@ public final class BoundsOfWhatFalls extends Due {
         due("what 1", 2, x.game(0, 1));
         due("what 2", NONE, x.game(0, 2));
         due("what -1", NONE, x.game(0, -1));
-        due("cord 1", NONE, x.game(1, 0));
+        for (int cord = 1; cord <= 6; cord++) {
+            due("cord " + cord, NONE, x.game(cord, 0));
+            due("cord " + cord, NONE, x.game(cord, 1));
+        }
         due("cord -1", NONE, x.game(-1, 1));
         for (int far : farNumbers()) {
             due("cord " + far, NONE, x.game(far, 0));
